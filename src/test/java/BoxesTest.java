@@ -95,6 +95,8 @@ public final class BoxesTest {
         due("score", x.look(1, 2, 1), -1);
         due("empty", x.look(1, 1, 1), NOTHING);
         due("what 2", x.look(1, 2, 2), NONE);
+        x.put(1, 0, 0, 5);
+        due("what 2", x.look(1, 0, 2), NONE);
         due("what -1", x.look(1, 1, -1), NONE);
         due("place 3", x.look(1, 3, 0), NONE);
         due("place -1", x.look(1, -1, 0), NONE);

@@ -13,6 +13,8 @@ public final class ChangesTest {
         eightChanges();
         saveAndRestore();
         theSnapshotStays();
+        undoOneByOne();
+        otherLoansComeBack();
         CHECKS.finish();
     }
 
@@ -169,6 +171,81 @@ public final class ChangesTest {
         x.derive(0);
         x.copyBowings(0, 1, 0, 0);
         due("also if nothing is copied", x.count(9), 6);
+    }
+
+    /** Changes of each kind in a row, undone in a row. */
+    private static void undoOneByOne() {
+        OrchestraLibrary x = new OrchestraLibrary();
+        x.edition(0, 9, 4);
+        x.derive(0);
+        int[] prints = new int[9];
+        for (int round = 0; round < 2; round++) {
+            for (int i = 0; i < 8; i++) {
+                prints[i] = print(x);
+                changeOfKind(x, round * 8 + i);
+            }
+            prints[8] = print(x);
+            for (int i = 8; i > 0; i--) {
+                CHECKS.holds("change " + (i - 1) + " is seen", prints[i] != prints[i - 1]);
+                due("undo", x.undo(), i - 1);
+                due("undone " + (i - 1), print(x), prints[i - 1]);
+            }
+            x.buy(0, 4, 9);
+            x.seat(4, 3);
+        }
+    }
+
+    private static void changeOfKind(OrchestraLibrary x, int kind) {
+        switch (kind) {
+            case 0: x.cut(1, 3, 4); break;
+            case 1: x.insert(1, 2, 3, 1); break;
+            case 2: x.rework(1, 9, 2); break;
+            case 3: x.tempo(1, 9, 500); break;
+            case 4: x.bow(1, 3, 9, 4); break;
+            case 5: x.copyBowings(1, 0, 3, 0); break;
+            case 6: x.seat(3, 3); break;
+            case 7: x.buy(1, 3, 3); break;
+            case 8: x.lend(3, 0, 4, 2, 2); break;
+            case 9: x.lendAll(3, 0, 2); break;
+            case 10: x.pass(5); break;
+            case 11: x.bring(0, 1, 1); break;
+            case 12: x.edition(2, 5, 5); break;
+            case 13: x.derive(2); break;
+            case 14: Checks.readText(x, "t2:1=600;w2:2=2"); break;
+            default: x.tempo(2, 1, 0); break;
+        }
+    }
+
+    /** Loans and fees that came in place of those of the snapshot leave nothing behind. */
+    private static void otherLoansComeBack() {
+        OrchestraLibrary x = new OrchestraLibrary();
+        x.edition(0, 9, 4);
+        x.derive(0);
+        x.buy(0, 1, 9);
+        x.buy(1, 5, 9);
+        int before = print(x);
+        x.lend(2, 0, 1, 3, 7);
+        x.pass(9);
+        x.bring(0, 1, 1);
+        int lent = print(x);
+        x.save();
+        x.undo();
+        x.undo();
+        x.undo();
+        due("as before", print(x), before);
+        due("no fees", x.count(7), 0);
+        x.lend(4, 1, 5, 6, 100);
+        due("borrower", x.loan(0, 0), 4);
+        due("fees", x.loan(0, 6), 0);
+        due("lost", x.borrower(4, 1), 0);
+        due("fees", x.count(7), 0);
+        x.restore();
+        due("as saved", print(x), lent);
+        int[] loan = {2, 0, 1, 3, 1, 7, 54, 1};
+        for (int what = 0; what < 8; what++) {
+            due("loan " + what, x.loan(0, what), loan[what]);
+        }
+        due("stock", x.stock(1, 5, 2), 0);
     }
 
     private static void eightChanges() {

@@ -20,6 +20,8 @@ public final class EditionsTest {
         bar();
         carry();
         barsOfBoughtEditionsStay();
+        allOfABarMoves();
+        anUndoneEditionLeavesNothing();
         CHECKS.finish();
     }
 
@@ -277,6 +279,10 @@ public final class EditionsTest {
         due("own 3", x.bar(0, 3, 3), NOTHING);
         due("what -1", x.bar(0, 1, -1), NONE);
         due("what 5", x.bar(0, 1, 5), NONE);
+        x.tempo(0, 1, 333);
+        due("counting 1, its own", x.bar(0, 1, 4), 333);
+        due("counting 2, its own", x.bar(0, 2, 4), 450);
+        x.tempo(0, 1, 0);
         due("bar 0", x.bar(0, 0, 0), NONE);
         due("bar 4", x.bar(0, 4, 0), NONE);
         due("edition 1", x.bar(1, 1, 0), NONE);
@@ -299,6 +305,7 @@ public final class EditionsTest {
         due("inserted", x.carry(1, 1, 0), NOTHING);
         due("back", x.carry(1, 4, 0), 4);
         due("itself", x.carry(1, 2, 1), 2);
+        due("itself", x.carry(1, 1, 1), 1);
         due("itself", x.carry(0, 6, 0), 6);
         due("other work", x.carry(0, 1, 2), BAD);
         due("no bar", x.carry(0, 7, 2), NONE);
@@ -306,6 +313,83 @@ public final class EditionsTest {
         due("no edition", x.carry(3, 1, 0), NONE);
         due("no edition", x.carry(0, 1, 3), NONE);
         due("no edition", x.carry(0, 1, -1), NONE);
+    }
+
+    /** Gives each bar numbers of its own, and looks whether they stay together. */
+    private static void allOfABarMoves() {
+        OrchestraLibrary x = new OrchestraLibrary();
+        x.edition(0, 8, 1);
+        for (int bar = 1; bar <= 8; bar++) {
+            due("version", x.rework(0, bar, bar), bar);
+            x.tempo(0, bar, 300 + bar);
+            for (int instrument = 0; instrument < 4; instrument++) {
+                x.bow(0, instrument, bar, 1 + (bar + instrument) % 4);
+            }
+        }
+        x.insert(0, 3, 2, 9);
+        dueBars(x, 0, 1, 2, 3, 0, 0, 4, 5, 6, 7, 8);
+        x.cut(0, 2, 4);
+        dueBars(x, 0, 1, 0, 4, 5, 6, 7, 8);
+        x.derive(0);
+        x.cut(0, 1, 1);
+        dueBars(x, 0, 0, 4, 5, 6, 7, 8);
+        x.insert(0, 0, 1, 9);
+        dueBars(x, 0, 0, 0, 4, 5, 6, 7, 8);
+        x.insert(0, 7, 1, 9);
+        dueBars(x, 0, 0, 0, 4, 5, 6, 7, 8, 0);
+        dueBars(x, 1, 1, 0, 4, 5, 6, 7, 8);
+    }
+
+    /** For each bar its origin, or 0 for an inserted one. */
+    private static void dueBars(OrchestraLibrary x, int edition, int... origins) {
+        due("bars", x.ofEdition(edition, 1), origins.length);
+        for (int bar = 1; bar <= origins.length; bar++) {
+            int origin = origins[bar - 1];
+            String call = "of bar " + bar;
+            CHECKS.holds("origin " + call, origin == 0 ? x.bar(edition, bar, 0) > 8 : x.bar(edition, bar, 0) == origin);
+            due("version " + call, x.bar(edition, bar, 1), origin);
+            due("beats " + call, x.bar(edition, bar, 2), origin == 0 ? 9 : origin);
+            due("tempo " + call, x.bar(edition, bar, 3), origin == 0 ? NOTHING : 300 + origin);
+            for (int instrument = 0; instrument < 4; instrument++) {
+                int bowing = origin == 0 ? 0 : 1 + (origin + instrument) % 4;
+                due("bowing " + instrument + " " + call, x.bowing(edition, instrument, bar), bowing);
+            }
+        }
+    }
+
+    private static void anUndoneEditionLeavesNothing() {
+        OrchestraLibrary x = new OrchestraLibrary();
+        x.save();
+        for (int round = 0; round < 2; round++) {
+            due("edition", x.edition(round, 3, 2), 0);
+            due("derive", x.derive(0), 1);
+            for (int edition = 0; edition < 2; edition++) {
+                due("model", x.ofEdition(edition, 2), edition == 0 ? NOTHING : 0);
+                due("bowings", x.ofEdition(edition, 5), 0);
+                due("tempos", x.ofEdition(edition, 6), 0);
+                due("version", x.bar(edition, 3, 1), 0);
+                for (int instrument = 0; instrument < 6; instrument++) {
+                    for (int what = 0; what < 4; what++) {
+                        due("stock", x.stock(edition, instrument, what), 0);
+                    }
+                }
+                x.rework(edition, 3, 3);
+                x.tempo(edition, 3, 300);
+                for (int instrument = 0; instrument < 6; instrument++) {
+                    x.bow(edition, instrument, 3, 1);
+                    x.buy(edition, instrument, 5);
+                    x.lend(0, edition, instrument, 3, 0);
+                    x.bring(edition * 6 + instrument, 1, 1);
+                }
+            }
+            due("restore", x.restore(), 0);
+        }
+        x.edition(0, 3, 2);
+        x.derive(0);
+        x.restore();
+        x.edition(0, 3, 2);
+        x.edition(1, 3, 2);
+        due("no model in place of a derived one", x.ofEdition(1, 2), NOTHING);
     }
 
     private static void barsOfBoughtEditionsStay() {

@@ -97,6 +97,13 @@ public final class LoansTest {
         due("refusal", x.refusal(), NOTHING);
         due("no players", x.lendAll(0, 0, 1), REFUSED);
         due("reason 6", x.refusal(), 6);
+        x.seat(0, 1);
+        due("days 0", x.lendAll(0, 0, 0), 1);
+        due("due today", x.loan(0, 5), 0);
+        due("days 999", x.lendAll(0, 0, 999), 1);
+        due("due", x.loan(1, 5), 999);
+        x.seat(0, 0);
+        due("no players any more", x.lendAll(0, 0, 1), REFUSED);
     }
 
     private static void lendAllRefusals() {
@@ -106,6 +113,8 @@ public final class LoansTest {
         due("6 ahead of 2", x.lendAll(0, 0, 1), REFUSED);
         due("reason 6", x.refusal(), 6);
         x.seat(0, 20);
+        due("1 for the first instrument", x.lendAll(1, 1, 1), REFUSED);
+        due("reason 1", x.refusal(), 1);
         due("overdue", x.lendAll(0, 0, 1), REFUSED);
         due("reason 2", x.refusal(), 2);
         x.seat(5, 3);

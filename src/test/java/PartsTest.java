@@ -14,6 +14,7 @@ public final class PartsTest {
         copyBowingsCodes();
         copyBowingsCounts();
         copiedKeeps();
+        firstAndLastBar();
         CHECKS.finish();
     }
 
@@ -168,6 +169,18 @@ public final class PartsTest {
             due("mode 1, bowing of " + bar, x.bowing(1, 1, bar), bowingsOfPut[bar - 1]);
         }
         due("from unchanged", x.bowing(0, 1, 4), 1);
+    }
+
+    private static void firstAndLastBar() {
+        OrchestraLibrary x = new OrchestraLibrary();
+        x.edition(0, 5, 1);
+        x.derive(0);
+        x.bow(0, 3, 1, 1);
+        x.bow(0, 3, 5, 2);
+        due("both", x.copyBowings(0, 1, 3, 0), 2);
+        due("first", x.bowing(1, 3, 1), 1);
+        due("last", x.bowing(1, 3, 5), 2);
+        due("none doubtful", x.copied(3), 0);
     }
 
     private static void copiedKeeps() {

@@ -62,6 +62,15 @@ public final class TextsTest {
         due("out", x.loan(0, 4), 1);
         due("lost", x.stock(0, 4, 3), 1);
         due("good", x.stock(0, 4, 1), 6);
+        x.derive(0);
+        due("each number in its place", Checks.readText(x, "i1:2+3*4;c1:9-10;w1:8=7;t1:7=600;b1.2:3=4"), 5);
+        due("bars", x.ofEdition(1, 1), 10);
+        due("inserted", x.carry(1, 5, 0), NOTHING);
+        due("behind those that are cut out", x.carry(1, 9, 0), 8);
+        due("beats", x.bar(1, 8, 2), 7);
+        due("tempo", x.bar(1, 7, 3), 600);
+        due("bowing", x.bowing(1, 2, 3), 4);
+        x.undo();
         due("several", Checks.readText(x, "t0:4=0;t0:1=200;b0.0:1=4;r0:1+0"), 4);
         due("in their order", x.loan(0, 4), 0);
         due("tempo taken away", x.bar(0, 4, 3), NOTHING);
