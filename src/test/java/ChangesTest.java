@@ -221,10 +221,23 @@ public final class ChangesTest {
         OrchestraLibrary x = new OrchestraLibrary();
         x.edition(0, 9, 4);
         x.derive(0);
-        x.buy(0, 1, 9);
-        x.buy(1, 5, 9);
+        x.buy(1, 1, 9);
+        x.buy(0, 5, 9);
+        x.save();
         int before = print(x);
-        x.lend(2, 0, 1, 3, 7);
+        x.lend(2, 1, 1, 3, 7);
+        x.pass(9);
+        x.bring(0, 1, 1);
+        x.restore();
+        due("as before the loan", print(x), before);
+        for (int what = 0; what < 4; what++) {
+            due("nothing left at the borrower", x.borrower(2, what), 0);
+        }
+        due("no open loans", x.count(2), 0);
+        due("no fees", x.count(7), 0);
+        x.lend(2, 1, 1, 3, 7);
+        due("nothing lost in a new loan", x.borrower(2, 1), 0);
+        due("no fees in a new loan", x.loan(0, 6), 0);
         x.pass(9);
         x.bring(0, 1, 1);
         int lent = print(x);
@@ -234,18 +247,19 @@ public final class ChangesTest {
         x.undo();
         due("as before", print(x), before);
         due("no fees", x.count(7), 0);
-        x.lend(4, 1, 5, 6, 100);
+        x.lend(4, 0, 5, 6, 100);
         due("borrower", x.loan(0, 0), 4);
         due("fees", x.loan(0, 6), 0);
         due("lost", x.borrower(4, 1), 0);
         due("fees", x.count(7), 0);
         x.restore();
         due("as saved", print(x), lent);
-        int[] loan = {2, 0, 1, 3, 1, 7, 54, 1};
+        int[] loan = {2, 1, 1, 3, 1, 7, 54, 1};
         for (int what = 0; what < 8; what++) {
             due("loan " + what, x.loan(0, what), loan[what]);
         }
-        due("stock", x.stock(1, 5, 2), 0);
+        due("stock", x.stock(0, 5, 2), 0);
+        due("stock", x.stock(1, 1, 2), 1);
     }
 
     private static void eightChanges() {

@@ -383,13 +383,22 @@ public final class EditionsTest {
                 }
             }
             due("restore", x.restore(), 0);
+            due("no copies bought", x.count(3), 0);
+            due("no copies lost", x.count(6), 0);
         }
         x.edition(0, 3, 2);
-        x.derive(0);
+        due("derive", x.derive(0), 1);
         x.restore();
-        x.edition(0, 3, 2);
-        x.edition(1, 3, 2);
+        due("the work again", x.edition(0, 3, 2), 0);
+        due("another work", x.edition(1, 3, 2), 1);
         due("no model in place of a derived one", x.ofEdition(1, 2), NOTHING);
+        x.undo();
+        x.derive(0);
+        x.save();
+        x.undo();
+        x.edition(1, 3, 2);
+        x.restore();
+        due("a model comes back", x.ofEdition(1, 2), 0);
     }
 
     private static void barsOfBoughtEditionsStay() {

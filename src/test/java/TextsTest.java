@@ -145,6 +145,11 @@ public final class TextsTest {
         due("8 commands", Checks.readText(x, "w0:1=1;w0:1=2;w0:1=3;w0:1=4;w0:1=5;w0:1=6;w0:1=7;w0:1=8"), 8);
         due("version", x.bar(0, 1, 1), 8);
         x.undo();
+        Checks.readText(x, "c0:1-1");
+        for (int length = 0; length < 6; length++) {
+            due("a shorter text than the one before", Checks.readText(x, "c0:1-1".substring(0, length)), BAD);
+            due("its fault position", x.faultPosition(), length);
+        }
         Checks.readText(x, "qq");
         x.undo();
         x.save();
