@@ -15,6 +15,8 @@ public final class ChangesTest {
         theSnapshotStays();
         undoOneByOne();
         otherLoansComeBack();
+        lostLoansAreNotOverdue();
+        aFullLibrary();
         CHECKS.finish();
     }
 
@@ -260,6 +262,67 @@ public final class ChangesTest {
         }
         due("stock", x.stock(0, 5, 2), 0);
         due("stock", x.stock(1, 1, 2), 1);
+    }
+
+    private static void lostLoansAreNotOverdue() {
+        OrchestraLibrary x = new OrchestraLibrary();
+        x.edition(0, 9, 4);
+        x.buy(0, 1, 9);
+        x.save();
+        x.lend(2, 0, 1, 3, 7);
+        x.lend(2, 0, 1, 3, 1);
+        x.restore();
+        x.pass(9);
+        due("no loan, none overdue", x.overdue(0), NOTHING);
+        x.lend(2, 0, 1, 3, 7);
+        x.pass(8);
+        due("one loan", x.overdue(0), 0);
+        due("one loan", x.overdue(1), NOTHING);
+    }
+
+    /** All rows filled to their end: 6 editions of 99 bars, 180 copies of each, 20 loans, all overdue. */
+    private static void aFullLibrary() {
+        OrchestraLibrary x = new OrchestraLibrary();
+        x.edition(3, 99, 9);
+        for (int bar = 1; bar <= 99; bar++) {
+            x.tempo(0, bar, 200 + bar);
+            for (int instrument = 0; instrument < 4; instrument++) {
+                x.bow(0, instrument, bar, 4);
+            }
+        }
+        for (int edition = 1; edition < 6; edition++) {
+            due("derive", x.derive(0), edition);
+            x.rework(edition, 99, 1);
+        }
+        for (int edition = 0; edition < 6; edition++) {
+            for (int instrument = 0; instrument < 6; instrument++) {
+                x.buy(edition, instrument, 30);
+            }
+        }
+        for (int loan = 0; loan < 20; loan++) {
+            due("lend", x.lend(5, 5, loan % 6, 5, 20 - loan), loan);
+        }
+        int[] counts = {6, 20, 20, 1080, 980, 100, 0, 0, 0, 8, 0};
+        for (int what = 0; what < 11; what++) {
+            due("full count " + what, x.count(what), counts[what]);
+        }
+        int before = print(x);
+        due("save", x.save(), 6);
+        x.pass(999);
+        for (int place = 0; place <= 20; place++) {
+            due("overdue", x.overdue(place), place < 20 ? 19 - place : NOTHING);
+        }
+        due("bring", x.bring(19, 0, 5), 350);
+        due("undo", x.undo(), 7);
+        due("undo", x.undo(), 6);
+        due("undone", print(x), before);
+        x.tempo(5, 99, 0);
+        x.bow(5, 3, 99, 0);
+        due("last bar", x.ofEdition(5, 5), 395);
+        due("last bar", x.ofEdition(5, 6), 98);
+        due("restore", x.restore(), 6);
+        due("restored", print(x), before);
+        due("last bar", x.difference(0, 5, 0, 2), 99);
     }
 
     private static void eightChanges() {
