@@ -82,6 +82,9 @@ public final class ModelTest {
     }
 
     private boolean call(String name, int... arguments) throws Exception {
+        if (calls == CALLS) {
+            return true;
+        }
         Class<?>[] types = new Class<?>[arguments.length];
         Object[] values = new Object[arguments.length];
         for (int i = 0; i < arguments.length; i++) {

@@ -62,10 +62,12 @@ public final class TemposTest {
 
     private static void secondsOfOneBar() {
         OrchestraLibrary x = new OrchestraLibrary();
-        x.edition(0, 1, 1);
         for (int beats = 1; beats <= 9; beats++) {
-            x.rework(0, 1, beats);
             for (int tenths = 200; tenths <= 2500; tenths++) {
+                if (tenths % 200 == 0) {
+                    x = new OrchestraLibrary();
+                    x.edition(0, 1, beats);
+                }
                 x.tempo(0, 1, tenths);
                 CHECKS.dueBits("bar of " + beats + " at " + tenths, x.seconds(0, 1, 1),
                     (float) beats * 60.0f / ((float) tenths / 10.0f));

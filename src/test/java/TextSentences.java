@@ -176,16 +176,11 @@ final class TextSentences implements Codes {
             dueFault(x, "t0:1=20000;t", 9);
         });
         s.test("or the length of the text if it ends too early", x -> {
-            String text = "l0:0.0*11/22;r1:1+1;i0:1+1*1";
-            for (int length = 0; length <= text.length(); length++) {
-                boolean isWhole = length == 11 || length == 12 || length == 19 || length == 28;
-                s.due(read(x, text.substring(0, length)), isWhole ? STATE : BAD);
-                s.due(x.faultPosition(), isWhole ? NOTHING : length);
-            }
-            for (int length = text.length() - 1; length >= 0; length--) {
-                boolean isWhole = length == 11 || length == 12 || length == 19;
-                s.due(read(x, text.substring(0, length)), isWhole ? STATE : BAD);
-                s.due(x.faultPosition(), isWhole ? NOTHING : length);
+            // Texts that become longer, and texts that are shorter than the one before.
+            OrchestraLibrary y = new OrchestraLibrary();
+            for (int length = 0; length <= 28; length++) {
+                dueEnd(x, length);
+                dueEnd(y, 28 - length);
             }
         });
         s.test("the length of the text if it ends", x -> {
@@ -208,6 +203,13 @@ final class TextSentences implements Codes {
             s.dueAll(new int[] {read(x, "l0:1.0*2/0"), read(x, "l6:1.0*1/0"), read(x, "l0:1.0*1/1000"), read(x, "r0:1+0")},
                 STATE, STATE, STATE, STATE);
         });
+    }
+
+    /** Reads the beginning of a text, which is whole at four lengths and ends too early at all others. */
+    private void dueEnd(OrchestraLibrary x, int length) {
+        boolean isWhole = length == 11 || length == 12 || length == 19 || length == 28;
+        s.due(read(x, "l0:0.0*11/22;r1:1+1;i0:1+1*1".substring(0, length)), isWhole ? STATE : BAD);
+        s.due(x.faultPosition(), isWhole ? NOTHING : length);
     }
 
     private void append() {
