@@ -1,3 +1,6 @@
+import java.util.ArrayList;
+import java.util.List;
+
 /** Promises 41 to 44: count, undo, save and restore. */
 public final class ChangesTest {
     private static final int NONE = OrchestraLibrary.NONE;
@@ -24,6 +27,10 @@ public final class ChangesTest {
         CHECKS.due(call, got, want);
     }
 
+    private static void dueAll(String what, Replay x, List<Integer> before) {
+        CHECKS.holds(what, x.print().equals(before));
+    }
+
     private static void count() {
         OrchestraLibrary x = new OrchestraLibrary();
         x.edition(0, 5, 4);
@@ -45,223 +52,204 @@ public final class ChangesTest {
         due("count 11", x.count(11), NONE);
     }
 
-    /** One number that tells nearly everything which undo brings back. */
-    private static int print(OrchestraLibrary x) {
-        int sum = 17;
-        for (int what = 0; what <= 8; what++) {
-            sum = sum * 31 + x.count(what);
-        }
-        for (int edition = 0; edition < 6; edition++) {
-            for (int what = 0; what < 7; what++) {
-                sum = sum * 31 + x.ofEdition(edition, what);
-            }
-            for (int bar = 1; bar <= x.ofEdition(edition, 1); bar++) {
-                for (int what = 0; what < 5; what++) {
-                    sum = sum * 31 + x.bar(edition, bar, what);
-                }
-                for (int instrument = 0; instrument < 4; instrument++) {
-                    sum = sum * 31 + x.bowing(edition, instrument, bar);
-                }
-            }
-        }
-        for (int instrument = 0; instrument < 6; instrument++) {
-            sum = sum * 31 + x.needs(instrument);
-            for (int what = 0; what < 4; what++) {
-                sum = sum * 31 + x.stock(0, instrument, what) + x.borrower(instrument, what);
-            }
-        }
-        for (int loan = 0; loan < 20; loan++) {
-            for (int what = 0; what < 8; what++) {
-                sum = sum * 31 + x.loan(loan, what);
-            }
-        }
-        return sum;
-    }
-
     private static void everyChangeIsUndone() {
-        OrchestraLibrary x = new OrchestraLibrary();
-        int fresh = print(x);
-        x.edition(1, 9, 4);
+        Replay x = new Replay();
+        List<Integer> fresh = x.print();
+        x.call("edition", 1, 9, 4);
         dueUndone(x, fresh, 0);
-        x.edition(1, 9, 4);
-        int before = print(x);
-        x.derive(0);
+        x.call("edition", 1, 9, 4);
+        List<Integer> before = x.print();
+        x.call("derive", 0);
         dueUndone(x, before, 1);
-        x.derive(0);
-        x.bow(0, 0, 3, 3);
-        before = print(x);
-        x.cut(0, 2, 4);
+        x.call("derive", 0);
+        x.call("bow", 0, 0, 3, 3);
+        before = x.print();
+        x.call("cut", 0, 2, 4);
         dueUndone(x, before, 3);
-        x.insert(0, 2, 4, 1);
+        x.call("insert", 0, 2, 4, 1);
         dueUndone(x, before, 3);
-        x.rework(0, 9, 1);
+        x.call("rework", 0, 9, 1);
         dueUndone(x, before, 3);
-        x.tempo(0, 9, 700);
+        x.call("tempo", 0, 9, 700);
         dueUndone(x, before, 3);
-        x.seat(5, 9);
+        x.call("seat", 5, 9);
         dueUndone(x, before, 3);
-        x.buy(0, 5, 9);
+        x.call("buy", 0, 5, 9);
         dueUndone(x, before, 3);
-        x.bow(0, 3, 9, 1);
+        x.call("bow", 0, 3, 9, 1);
         dueUndone(x, before, 3);
-        x.copyBowings(0, 1, 0, 0);
+        x.call("copyBowings", 0, 1, 0, 0);
         dueUndone(x, before, 3);
-        x.pass(5);
+        x.call("pass", 5);
         dueUndone(x, before, 3);
-        x.buy(0, 5, 9);
-        x.seat(5, 4);
-        before = print(x);
-        x.lend(0, 0, 5, 2, 0);
+        x.call("buy", 0, 5, 9);
+        x.call("seat", 5, 4);
+        before = x.print();
+        x.call("lend", 0, 0, 5, 2, 0);
         dueUndone(x, before, 5);
-        x.lendAll(0, 0, 3);
+        x.call("lendAll", 0, 0, 3);
         dueUndone(x, before, 5);
-        Checks.readText(x, "t0:1=300;l5:0.5*1/9");
+        x.readText("t0:1=300;l5:0.5*1/9");
         dueUndone(x, before, 5);
-        x.lend(0, 0, 5, 2, 0);
-        x.pass(3);
-        before = print(x);
-        x.bring(0, 1, 1);
+        x.call("lend", 0, 0, 5, 2, 0);
+        x.call("pass", 3);
+        before = x.print();
+        x.call("bring", 0, 1, 1);
         dueUndone(x, before, 7);
     }
 
-    private static void dueUndone(OrchestraLibrary x, int before, int left) {
-        CHECKS.holds("the change is seen", print(x) != before);
-        due("undo", x.undo(), left);
-        due("all is as before", print(x), before);
+    private static void dueUndone(Replay x, List<Integer> before, int left) {
+        CHECKS.holds("the change is seen", !x.print().equals(before));
+        due("undo", x.call("undo"), left);
+        dueAll("all is as before", x, before);
     }
 
     private static void errorsAreNoChanges() {
-        OrchestraLibrary x = new OrchestraLibrary();
-        x.edition(0, 3, 3);
-        x.buy(0, 0, 1);
-        int before = print(x);
-        x.edition(0, 3, 3);
-        x.derive(9);
-        x.cut(0, 1, 1);
-        x.insert(0, 0, 1, 1);
-        x.rework(0, 1, 1);
-        x.tempo(0, 1, 1);
-        x.seat(0, 99);
-        x.buy(0, 0, 30);
-        x.bow(0, 0, 1, 9);
-        x.copyBowings(0, 0, 0, 0);
-        x.lend(0, 0, 0, 2, 2);
-        x.lendAll(0, 0, 0);
-        x.bring(0, 1, 1);
-        x.pass(0);
-        Checks.readText(x, "t0:1=300;t0:1=1");
-        Checks.readText(x, "t0:1=300;");
-        due("no changes", x.count(9), 2);
-        due("unchanged", print(x), before);
+        Replay x = new Replay();
+        x.call("edition", 0, 3, 3);
+        x.call("buy", 0, 0, 1);
+        List<Integer> before = x.print();
+        x.call("edition", 0, 3, 3);
+        x.call("derive", 9);
+        x.call("cut", 0, 1, 1);
+        x.call("insert", 0, 0, 1, 1);
+        x.call("rework", 0, 1, 1);
+        x.call("tempo", 0, 1, 1);
+        x.call("seat", 0, 99);
+        x.call("buy", 0, 0, 30);
+        x.call("bow", 0, 0, 1, 9);
+        x.call("copyBowings", 0, 0, 0, 0);
+        x.call("lend", 0, 0, 0, 2, 2);
+        x.call("lendAll", 0, 0, 0);
+        x.call("bring", 0, 1, 1);
+        x.call("pass", 0);
+        x.readText("t0:1=300;t0:1=1");
+        x.readText("t0:1=300;");
+        due("no changes", x.call("count", 9), 2);
+        dueAll("unchanged", x, before);
     }
 
     private static void otherCallsAreNoChanges() {
-        OrchestraLibrary x = new OrchestraLibrary();
-        x.edition(0, 3, 3);
-        x.box(0, 0, 3);
-        x.put(0, 0, 0, 0);
-        x.likeBox(0, 1);
-        x.append('c');
-        x.save();
-        print(x);
-        due("one change", x.count(9), 1);
-        x.tempo(0, 1, 0);
-        due("also if nothing is different", x.count(9), 2);
-        x.bow(0, 0, 1, 0);
-        x.seat(0, 0);
-        due("also if nothing is different", x.count(9), 4);
-        x.derive(0);
-        x.copyBowings(0, 1, 0, 0);
-        due("also if nothing is copied", x.count(9), 6);
+        Replay x = new Replay();
+        x.call("edition", 0, 3, 3);
+        x.call("box", 0, 0, 3);
+        x.call("put", 0, 0, 0, 0);
+        x.call("likeBox", 0, 1);
+        x.call("append", 'c');
+        x.call("save");
+        for (String name : new String[] {"length", "pace", "needs", "copied", "overdue"}) {
+            x.call(name, 0);
+        }
+        for (String name : new String[] {"ofEdition", "barAt", "loan", "borrower"}) {
+            x.call(name, 0, 1);
+        }
+        for (String name : new String[] {"bar", "seconds", "stock", "compare", "look"}) {
+            x.call(name, 0, 1, 1);
+        }
+        for (String name : new String[] {"faultPosition", "failed", "refusal"}) {
+            x.call(name);
+        }
+        x.call("carry", 0, 1, 0);
+        x.call("bowing", 0, 0, 1);
+        x.call("difference", 0, 0, 0, 0);
+        due("one change", x.call("count", 9), 1);
+        x.call("tempo", 0, 1, 0);
+        due("also if nothing is different", x.call("count", 9), 2);
+        x.call("bow", 0, 0, 1, 0);
+        x.call("seat", 0, 0);
+        due("also if nothing is different", x.call("count", 9), 4);
+        x.call("derive", 0);
+        x.call("copyBowings", 0, 1, 0, 0);
+        due("also if nothing is copied", x.call("count", 9), 6);
     }
 
     /** Changes of each kind in a row, undone in a row. */
     private static void undoOneByOne() {
-        OrchestraLibrary x = new OrchestraLibrary();
-        x.edition(0, 9, 4);
-        x.derive(0);
-        int[] prints = new int[9];
+        Replay x = new Replay();
+        x.call("edition", 0, 9, 4);
+        x.call("derive", 0);
         for (int round = 0; round < 2; round++) {
+            List<List<Integer>> prints = new ArrayList<>();
             for (int i = 0; i < 8; i++) {
-                prints[i] = print(x);
+                prints.add(x.print());
                 changeOfKind(x, round * 8 + i);
             }
-            prints[8] = print(x);
+            prints.add(x.print());
             for (int i = 8; i > 0; i--) {
-                CHECKS.holds("change " + (i - 1) + " is seen", prints[i] != prints[i - 1]);
-                due("undo", x.undo(), i - 1);
-                due("undone " + (i - 1), print(x), prints[i - 1]);
+                CHECKS.holds("change " + (i - 1) + " is seen", !prints.get(i).equals(prints.get(i - 1)));
+                due("undo", x.call("undo"), i - 1);
+                dueAll("undone " + (i - 1), x, prints.get(i - 1));
             }
-            x.buy(0, 4, 9);
-            x.seat(4, 3);
+            x.call("buy", 0, 4, 9);
+            x.call("seat", 4, 3);
         }
     }
 
-    private static void changeOfKind(OrchestraLibrary x, int kind) {
+    private static void changeOfKind(Replay x, int kind) {
         switch (kind) {
-            case 0: x.cut(1, 3, 4); break;
-            case 1: x.insert(1, 2, 3, 1); break;
-            case 2: x.rework(1, 9, 2); break;
-            case 3: x.tempo(1, 9, 500); break;
-            case 4: x.bow(1, 3, 9, 4); break;
-            case 5: x.copyBowings(1, 0, 3, 0); break;
-            case 6: x.seat(3, 3); break;
-            case 7: x.buy(1, 3, 3); break;
-            case 8: x.lend(3, 0, 4, 2, 2); break;
-            case 9: x.lendAll(3, 0, 2); break;
-            case 10: x.pass(5); break;
-            case 11: x.bring(0, 1, 1); break;
-            case 12: x.edition(2, 5, 5); break;
-            case 13: x.derive(2); break;
-            case 14: Checks.readText(x, "t2:1=600;w2:2=2"); break;
-            default: x.tempo(2, 1, 0); break;
+            case 0: x.call("cut", 1, 3, 4); break;
+            case 1: x.call("insert", 1, 2, 3, 1); break;
+            case 2: x.call("rework", 1, 9, 2); break;
+            case 3: x.call("tempo", 1, 9, 500); break;
+            case 4: x.call("bow", 1, 3, 9, 4); break;
+            case 5: x.call("copyBowings", 1, 0, 3, 0); break;
+            case 6: x.call("seat", 3, 3); break;
+            case 7: x.call("buy", 1, 3, 3); break;
+            case 8: x.call("lend", 3, 0, 4, 2, 2); break;
+            case 9: x.call("lendAll", 3, 0, 2); break;
+            case 10: x.call("pass", 5); break;
+            case 11: x.call("bring", 0, 1, 1); break;
+            case 12: x.call("edition", 2, 5, 5); break;
+            case 13: x.call("derive", 2); break;
+            case 14: x.readText("t2:1=600;w2:2=2"); break;
+            default: x.call("tempo", 2, 1, 0); break;
         }
     }
 
     /** Loans and fees that came in place of those of the snapshot leave nothing behind. */
     private static void otherLoansComeBack() {
-        OrchestraLibrary x = new OrchestraLibrary();
-        x.edition(0, 9, 4);
-        x.derive(0);
-        x.buy(1, 1, 9);
-        x.buy(0, 5, 9);
-        x.save();
-        int before = print(x);
-        x.lend(2, 1, 1, 3, 7);
-        x.pass(9);
-        x.bring(0, 1, 1);
-        x.restore();
-        due("as before the loan", print(x), before);
+        Replay x = new Replay();
+        x.call("edition", 0, 9, 4);
+        x.call("derive", 0);
+        x.call("buy", 1, 1, 9);
+        x.call("buy", 0, 5, 9);
+        x.call("save");
+        List<Integer> before = x.print();
+        x.call("lend", 2, 1, 1, 3, 7);
+        x.call("pass", 9);
+        x.call("bring", 0, 1, 1);
+        x.call("restore");
+        dueAll("as before the loan", x, before);
         for (int what = 0; what < 4; what++) {
-            due("nothing left at the borrower", x.borrower(2, what), 0);
+            due("nothing left at the borrower", x.call("borrower", 2, what), 0);
         }
-        due("no open loans", x.count(2), 0);
-        due("no fees", x.count(7), 0);
-        x.lend(2, 1, 1, 3, 7);
-        due("nothing lost in a new loan", x.borrower(2, 1), 0);
-        due("no fees in a new loan", x.loan(0, 6), 0);
-        x.pass(9);
-        x.bring(0, 1, 1);
-        int lent = print(x);
-        x.save();
-        x.undo();
-        x.undo();
-        x.undo();
-        due("as before", print(x), before);
-        due("no fees", x.count(7), 0);
-        x.lend(4, 0, 5, 6, 100);
-        due("borrower", x.loan(0, 0), 4);
-        due("fees", x.loan(0, 6), 0);
-        due("lost", x.borrower(4, 1), 0);
-        due("fees", x.count(7), 0);
-        x.restore();
-        due("as saved", print(x), lent);
+        due("no open loans", x.call("count", 2), 0);
+        due("no fees", x.call("count", 7), 0);
+        x.call("lend", 2, 1, 1, 3, 7);
+        due("nothing lost in a new loan", x.call("borrower", 2, 1), 0);
+        due("no fees in a new loan", x.call("loan", 0, 6), 0);
+        x.call("pass", 9);
+        x.call("bring", 0, 1, 1);
+        List<Integer> lent = x.print();
+        x.call("save");
+        x.call("undo");
+        x.call("undo");
+        x.call("undo");
+        dueAll("as before", x, before);
+        due("no fees", x.call("count", 7), 0);
+        x.call("lend", 4, 0, 5, 6, 100);
+        due("borrower", x.call("loan", 0, 0), 4);
+        due("fees", x.call("loan", 0, 6), 0);
+        due("lost", x.call("borrower", 4, 1), 0);
+        due("fees", x.call("count", 7), 0);
+        x.call("restore");
+        dueAll("as saved", x, lent);
         int[] loan = {2, 1, 1, 3, 1, 7, 54, 1};
         for (int what = 0; what < 8; what++) {
-            due("loan " + what, x.loan(0, what), loan[what]);
+            due("loan " + what, x.call("loan", 0, what), loan[what]);
         }
-        due("stock", x.stock(0, 5, 2), 0);
-        due("stock", x.stock(1, 1, 2), 1);
+        due("stock", x.call("stock", 0, 5, 2), 0);
+        due("stock", x.call("stock", 1, 1, 2), 1);
     }
 
     private static void lostLoansAreNotOverdue() {
@@ -280,49 +268,49 @@ public final class ChangesTest {
         due("one loan", x.overdue(1), NOTHING);
     }
 
-    /** All rows filled to their end: 6 editions of 99 bars, 180 copies of each, 20 loans, all overdue. */
+    /** All filled to its end, as far as 512 calls reach: 6 editions of 99 bars, 180 copies of each, 20 overdue loans. */
     private static void aFullLibrary() {
-        OrchestraLibrary x = new OrchestraLibrary();
-        x.edition(3, 99, 9);
+        Replay x = new Replay();
+        x.call("edition", 3, 99, 9);
         for (int bar = 1; bar <= 99; bar++) {
-            x.tempo(0, bar, 200 + bar);
-            for (int instrument = 0; instrument < 4; instrument++) {
-                x.bow(0, instrument, bar, 4);
-            }
+            x.call("tempo", 0, bar, 200 + bar);
+        }
+        for (int i = 0; i < 40; i++) {
+            x.call("bow", 0, i % 4, 90 + i / 4, 4);
         }
         for (int edition = 1; edition < 6; edition++) {
-            due("derive", x.derive(0), edition);
-            x.rework(edition, 99, 1);
+            due("derive", x.call("derive", 0), edition);
+            x.call("rework", edition, 99, 1);
         }
         for (int edition = 0; edition < 6; edition++) {
             for (int instrument = 0; instrument < 6; instrument++) {
-                x.buy(edition, instrument, 30);
+                x.call("buy", edition, instrument, 30);
             }
         }
         for (int loan = 0; loan < 20; loan++) {
-            due("lend", x.lend(5, 5, loan % 6, 5, 20 - loan), loan);
+            due("lend", x.call("lend", 5, 5, loan % 6, 5, 20 - loan), loan);
         }
         int[] counts = {6, 20, 20, 1080, 980, 100, 0, 0, 0, 8, 0};
         for (int what = 0; what < 11; what++) {
-            due("full count " + what, x.count(what), counts[what]);
+            due("full count " + what, x.call("count", what), counts[what]);
         }
-        int before = print(x);
-        due("save", x.save(), 6);
-        x.pass(999);
+        List<Integer> before = x.print();
+        due("save", x.call("save"), 6);
+        x.call("pass", 999);
         for (int place = 0; place <= 20; place++) {
-            due("overdue", x.overdue(place), place < 20 ? 19 - place : NOTHING);
+            due("overdue", x.call("overdue", place), place < 20 ? 19 - place : NOTHING);
         }
-        due("bring", x.bring(19, 0, 5), 350);
-        due("undo", x.undo(), 7);
-        due("undo", x.undo(), 6);
-        due("undone", print(x), before);
-        x.tempo(5, 99, 0);
-        x.bow(5, 3, 99, 0);
-        due("last bar", x.ofEdition(5, 5), 395);
-        due("last bar", x.ofEdition(5, 6), 98);
-        due("restore", x.restore(), 6);
-        due("restored", print(x), before);
-        due("last bar", x.difference(0, 5, 0, 2), 99);
+        due("bring", x.call("bring", 19, 0, 5), 350);
+        due("undo", x.call("undo"), 7);
+        due("undo", x.call("undo"), 6);
+        dueAll("undone", x, before);
+        x.call("tempo", 5, 99, 0);
+        x.call("bow", 5, 3, 99, 0);
+        due("last bar", x.call("ofEdition", 5, 5), 39);
+        due("last bar", x.call("ofEdition", 5, 6), 98);
+        due("restore", x.call("restore"), 6);
+        dueAll("restored", x, before);
+        due("last bar", x.call("difference", 0, 5, 0, 2), 99);
     }
 
     private static void eightChanges() {
@@ -348,37 +336,37 @@ public final class ChangesTest {
     }
 
     private static void saveAndRestore() {
-        OrchestraLibrary x = new OrchestraLibrary();
-        due("no snapshot", x.restore(), STATE);
-        due("save nothing", x.save(), 0);
-        x.edition(0, 9, 2);
-        due("restore nothing", x.restore(), 0);
-        due("no editions", x.ofEdition(0, 0), NONE);
-        x.edition(2, 9, 2);
-        x.derive(0);
-        x.tempo(1, 3, 444);
-        x.bow(1, 2, 3, 4);
-        x.buy(1, 2, 7);
-        x.seat(2, 5);
-        x.lend(3, 1, 2, 3, 1);
-        x.pass(4);
-        x.bring(0, 1, 1);
-        int before = print(x);
-        due("save", x.save(), 2);
-        due("save keeps the changes", x.count(9), 8);
-        due("save changes nothing", print(x), before);
-        x.bring(0, 0, 1);
-        x.derive(1);
-        x.rework(0, 1, 8);
-        x.insert(0, 0, 8, 8);
-        x.seat(2, 6);
-        due("restore", x.restore(), 2);
-        due("as saved", print(x), before);
-        due("no changes", x.count(9), 0);
-        due("no undo", x.undo(), STATE);
-        due("greatest version", x.rework(0, 1, 1), 1);
-        x.insert(0, 0, 1, 1);
-        due("greatest origin", x.bar(0, 1, 0), 10);
+        Replay x = new Replay();
+        due("no snapshot", x.call("restore"), STATE);
+        due("save nothing", x.call("save"), 0);
+        x.call("edition", 0, 9, 2);
+        due("restore nothing", x.call("restore"), 0);
+        due("no editions", x.call("ofEdition", 0, 0), NONE);
+        x.call("edition", 2, 9, 2);
+        x.call("derive", 0);
+        x.call("tempo", 1, 3, 444);
+        x.call("bow", 1, 2, 3, 4);
+        x.call("buy", 1, 2, 7);
+        x.call("seat", 2, 5);
+        x.call("lend", 3, 1, 2, 3, 1);
+        x.call("pass", 4);
+        x.call("bring", 0, 1, 1);
+        List<Integer> before = x.print();
+        due("save", x.call("save"), 2);
+        due("save keeps the changes", x.call("count", 9), 8);
+        dueAll("save changes nothing", x, before);
+        x.call("bring", 0, 0, 1);
+        x.call("derive", 1);
+        x.call("rework", 0, 1, 8);
+        x.call("insert", 0, 0, 8, 8);
+        x.call("seat", 2, 6);
+        due("restore", x.call("restore"), 2);
+        dueAll("as saved", x, before);
+        due("no changes", x.call("count", 9), 0);
+        due("no undo", x.call("undo"), STATE);
+        due("greatest version", x.call("rework", 0, 1, 1), 1);
+        x.call("insert", 0, 0, 1, 1);
+        due("greatest origin", x.call("bar", 0, 1, 0), 10);
     }
 
     private static void theSnapshotStays() {
